@@ -638,7 +638,6 @@ public final class StillInAugust {
         }
 
         private void expectParts(int weeks) {
-            Arrays.fill(untold, 0);
             expectOnce("HPSGTAB", 0);
             expectOnce("WO", weeks - 1);
             expectOnce("QD", AGES - 1);
@@ -1236,6 +1235,7 @@ public final class StillInAugust {
         private void chooseAct(House house, int week, int hands, int coming) {
             long least = Long.MAX_VALUE;
             int found = 0;
+            long scale = scale(week);
             int mostLetGo = house.mostLetGo(hands);
             for (int letGo = 0; letGo <= mostLetGo; letGo++) {
                 int stay = Hands.lessYoungestFirst(hands, letGo);
@@ -1246,7 +1246,7 @@ public final class StillInAugust {
                         int act = 1000 * letGo + 100 * taken + 10 * taught;
                         int done = Act.done(hands, act);
                         int kind = Hands.kind(done);
-                        long mean = house.weekCost(week, done, coming, act) * scale(week) + later[kind];
+                        long mean = house.weekCost(week, done, coming, act) * scale + later[kind];
                         if (mean < least) {
                             least = mean;
                             found = act + order[kind];
@@ -1309,7 +1309,6 @@ public final class StillInAugust {
         void passSunday(House house, int gone) {
             hands = Hands.behindSunday(hands, gone);
             coming = ordered;
-            ordered = 0;
             worked = false;
             week++;
             if (week == house.weeks) {

@@ -783,6 +783,32 @@ public final class PromiseTests {
         judged("N3H2O02W209D00D11D24T2Q00Q10Q20A1P0", new int[][] {{102, 0}, {0, 0}, {110, 0}}, NONE, 12, sure, 2);
     }
 
+    /** Each of these calls judges by itself: no other was asked before. */
+    private static void judgedUnasked() {
+        StillInAugust x = house(RICH);
+        promise = 35;
+        x.tell(202, 100);
+        due("paid(), unasked", x.paid(), 22);
+        x.tell(0, 0);
+        promise = 36;
+        due("luck(true), unasked", x.luck(true), 8);
+        x.untell();
+        x.tell(200, 0);
+        due("luck(false), unasked", x.luck(false), 25);
+        due("luck(true), unasked", x.luck(true), 16);
+        x.untell();
+        promise = 37;
+        due("worst(), unasked", x.worst(), NONE);
+        x.tell(0, 0);
+        due("worst(), unasked", x.worst(), 0);
+        x.untell();
+        x.tell(300, 0);
+        due("worst(), unasked", x.worst(), STATE);
+        x.untell();
+        promise = 35;
+        due("paid(), unasked", x.paid(), 0);
+    }
+
     private static void rowBesideLive() {
         promise = 34;
         StillInAugust x = house(RICH);
@@ -833,6 +859,7 @@ public final class PromiseTests {
         keeps();
         tells();
         judgements();
+        judgedUnasked();
         rowBesideLive();
         counts();
         System.out.println(wrong == 0 ? "all answers are as due" : wrong + " answers are not as due");
