@@ -7,6 +7,7 @@ public final class StillInAugust {
     private static final int RULES = 3;
     private static final int MOST_WEEKS = 5;
     private static final int MOST_HANDS = 4;
+    private static final int MOST_LEVEL = 4;
     private static final int AGES = 3;
     private static final int MOST_COMING = 2;
     private static final int SLOTS = 2;
@@ -278,7 +279,7 @@ public final class StillInAugust {
             return UNKNOWN;
         }
         planOnce();
-        for (int level = 0; level <= MOST_HANDS; level++) {
+        for (int level = 0; level <= MOST_LEVEL; level++) {
             if (firstAgainst(week, level) == NONE) {
                 return level;
             }
@@ -290,7 +291,7 @@ public final class StillInAugust {
         if (!isWeek(week)) {
             return UNKNOWN;
         }
-        if (l < 0 || l > MOST_HANDS) {
+        if (l < 0 || l > MOST_LEVEL) {
             return OUTSIDE;
         }
         planOnce();
@@ -725,7 +726,7 @@ public final class StillInAugust {
             if (week == NONE) {
                 return;
             }
-            int level = cursor.figure(Cursor.figures(0, MOST_HANDS));
+            int level = cursor.figure(Cursor.figures(0, MOST_LEVEL));
             if (level == NONE) {
                 return;
             }
@@ -742,7 +743,7 @@ public final class StillInAugust {
                 return;
             }
             cursor.step();
-            int level = cursor.figure(Cursor.figures(0, MOST_HANDS));
+            int level = cursor.figure(Cursor.figures(0, MOST_LEVEL));
             if (level == NONE) {
                 return;
             }
