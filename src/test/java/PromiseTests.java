@@ -1,104 +1,7 @@
 /** Promise by promise: ordinary calls, edges and refusals, with answers reckoned by hand. */
-public final class PromiseTests {
-    private static final int UNKNOWN = -1, OUTSIDE = -2, STATE = -3, FULL = -4, NONE = -9;
-
-    /** All means; chances with the bonus 1, 0, 0 fifths; hands do 2, 3, 5. */
-    private static final String RICH = "N2H3W010W112O02O13Q02Q11Q20D02D13D25P2S3G4T1A6B71";
-    /** One hook; who stays does 9 instead of 4. */
-    private static final String SMALL = "N2H1W005W105Q02D19";
-
-    private static int wrong = 0;
-    private static int promise = 0;
-
-    private static void due(String call, long got, long want) {
-        if (got != want) {
-            wrong++;
-            System.out.println("promise " + promise + ": " + call + " answered " + got + ", due is " + want);
-        }
-    }
-
-    private static void text(StillInAugust x, String text) {
-        x.wipe();
-        for (int i = 0; i < text.length(); i++) {
-            x.write(1, text.charAt(i));
-        }
-    }
-
-    private static StillInAugust house(String text) {
-        StillInAugust x = new StillInAugust();
-        make(x, text);
-        return x;
-    }
-
-    private static void make(StillInAugust x, String text) {
-        text(x, text);
-        if (x.make() < 1) {
-            wrong++;
-            System.out.println("promise " + promise + ": " + text + " is no house");
-        }
-    }
-
-    private static void rule(StillInAugust x, int rule, String text) {
-        text(x, text);
-        if (x.rule(rule) < 0) {
-            wrong++;
-            System.out.println("promise " + promise + ": " + text + " is no rule");
-        }
-    }
-
-    private static void fraction(String call, long above, long below, long wantAbove, long wantBelow) {
-        due(call + " above", above, wantAbove);
-        due(call + " below", below, wantBelow);
-    }
-
-    private static void mean(StillInAugust x, int rule, int week, int hands, int coming, long above, long below) {
-        fraction("mean(" + rule + ", " + week + ", " + hands + ", " + coming + ")",
-                x.mean(rule, week, hands, coming, true), x.mean(rule, week, hands, coming, false), above, below);
-    }
-
-    private static void best(StillInAugust x, int week, int hands, int coming, long above, long below) {
-        fraction("best(" + week + ", " + hands + ", " + coming + ")",
-                x.best(week, hands, coming, true), x.best(week, hands, coming, false), above, below);
-    }
-
-    private static void sunday(StillInAugust x, int hands, int others, long above, long below) {
-        fraction("sunday(" + hands + ", " + others + ")",
-                x.sunday(hands, others, true), x.sunday(hands, others, false), above, below);
-    }
-
-    private static void there(StillInAugust x, int rule, int week, int n, long above, long below) {
-        fraction("there(" + rule + ", " + week + ", " + n + ")",
-                x.there(rule, week, n, true), x.there(rule, week, n, false), above, below);
-    }
-
-    private static void shortly(StillInAugust x, int rule, int week, long above, long below) {
-        fraction("shortly(" + rule + ", " + week + ")",
-                x.shortly(rule, week, true), x.shortly(rule, week, false), above, below);
-    }
-
-    private static void idle(StillInAugust x, int rule, int week, long above, long below) {
-        fraction("idle(" + rule + ", " + week + ")",
-                x.idle(rule, week, true), x.idle(rule, week, false), above, below);
-    }
-
-    private static void without(StillInAugust x, int means, long above, long below) {
-        fraction("without(" + means + ")", x.without(means, true), x.without(means, false), above, below);
-    }
-
-    private static void luck(StillInAugust x, long above, long below) {
-        fraction("luck()", x.luck(true), x.luck(false), above, below);
-    }
-
-    private static void live(StillInAugust x, int week, int hands, int coming, int worked, int costs) {
-        due("live(0)", x.live(0), week);
-        due("live(1)", x.live(1), hands);
-        due("live(2)", x.live(2), coming);
-        due("live(3)", x.live(3), worked);
-        due("live(4)", x.live(4), costs);
-    }
-
+public final class PromiseTests extends Checks {
     private static void newObject() {
-        promise = 1;
+        promise(1);
         StillInAugust x = new StillInAugust();
         live(x, 0, 0, 0, 0, 0);
         int[] about = {1, 2, 1, 1, NONE, NONE, NONE, NONE};
@@ -124,7 +27,7 @@ public final class PromiseTests {
     }
 
     private static void writes() {
-        promise = 2;
+        promise(2);
         StillInAugust x = new StillInAugust();
         due("write(0)", x.write(0, 1), OUTSIDE);
         due("write(9)", x.write(9, 1), OUTSIDE);
@@ -150,7 +53,7 @@ public final class PromiseTests {
     }
 
     private static void wipes() {
-        promise = 3;
+        promise(3);
         StillInAugust x = new StillInAugust();
         due("wipe()", x.wipe(), 0);
         text(x, "N4X");
@@ -178,7 +81,7 @@ public final class PromiseTests {
     }
 
     private static void houseFaults() {
-        promise = 4;
+        promise(4);
         String[] good = {"N1", "N5", RICH, SMALL, "N5W499O44", "N1H1H".substring(0, 4), "N1B05", "N1G9T9A9S9P9",
             "N2W000W199O10O04", "N1Q05Q15Q25D00D19D20"};
         for (String text : good) {
@@ -233,7 +136,7 @@ public final class PromiseTests {
     }
 
     private static void ruleFaults() {
-        promise = 4;
+        promise(4);
         for (String text : new String[] {"L0", "L4", "00L0", "44332211" + "00L4", "40L0"}) {
             ruleFault(text, NONE);
         }
@@ -257,7 +160,7 @@ public final class PromiseTests {
     }
 
     private static void makes() {
-        promise = 5;
+        promise(5);
         StillInAugust x = new StillInAugust();
         due("make() of nothing", x.make(), STATE);
         rule(x, 1, "12L3");
@@ -296,7 +199,7 @@ public final class PromiseTests {
     }
 
     private static void rules() {
-        promise = 6;
+        promise(6);
         StillInAugust x = new StillInAugust();
         due("rule(3)", x.rule(3), UNKNOWN);
         due("rule(-1)", x.rule(-1), UNKNOWN);
@@ -320,7 +223,7 @@ public final class PromiseTests {
     }
 
     private static void levels() {
-        promise = 7;
+        promise(7);
         StillInAugust x = new StillInAugust();
         rule(x, 1, "41L3");
         due("level(1, 4)", x.level(1, 4), 1);
@@ -333,7 +236,7 @@ public final class PromiseTests {
 
     private static void whatIsTold() {
         StillInAugust x = house(RICH);
-        promise = 8;
+        promise(8);
         due("week(0, 0)", x.week(0, 0), 10);
         due("week(1, 0)", x.week(1, 0), 12);
         due("week(0, 1)", x.week(0, 1), 2);
@@ -342,7 +245,7 @@ public final class PromiseTests {
         due("week(-1, 5)", x.week(-1, 5), UNKNOWN);
         due("week(0, 2)", x.week(0, 2), OUTSIDE);
         due("week(0, -1)", x.week(0, -1), OUTSIDE);
-        promise = 9;
+        promise(9);
         int[][] aged = {{1, 2}, {0, 3}, {0, 5}};
         for (int age = 0; age < 3; age++) {
             due("aged(" + age + ", 0)", x.aged(age, 0), aged[age][0]);
@@ -352,7 +255,7 @@ public final class PromiseTests {
         due("aged(3, 1)", x.aged(3, 1), OUTSIDE);
         due("aged(0, 2)", x.aged(0, 2), OUTSIDE);
         due("aged(0, -1)", x.aged(0, -1), OUTSIDE);
-        promise = 10;
+        promise(10);
         int[] about = {2, 3, 2, 3, 4, 1, 6, 7};
         for (int what = 0; what < about.length; what++) {
             due("about(" + what + ")", x.about(what), about[what]);
@@ -366,7 +269,7 @@ public final class PromiseTests {
     }
 
     private static void mayBe() {
-        promise = 11;
+        promise(11);
         StillInAugust x = house(RICH);
         int[][] cases = {
             {0, 0, 0, 1}, {0, 0, 200, 1}, {0, 0, 300, 0}, {1, 0, 300, 1}, {1, 1, 300, 0}, {1, 1, 200, 1},
@@ -391,7 +294,7 @@ public final class PromiseTests {
     }
 
     private static void thens() {
-        promise = 12;
+        promise(12);
         StillInAugust x = house(RICH);
         due("then(0, 101, 10)", x.then(0, 101, 10), 11);
         due("then(0, 111, 2200)", x.then(0, 111, 2200), 201);
@@ -405,7 +308,7 @@ public final class PromiseTests {
     }
 
     private static void costsAndWork() {
-        promise = 13;
+        promise(13);
         StillInAugust x = house(RICH);
         due("costs(0, 101, 1, 11)", x.costs(0, 101, 1, 11), 17);
         due("costs(0, 101, 1, 10)", x.costs(0, 101, 1, 10), 17);
@@ -418,7 +321,7 @@ public final class PromiseTests {
         due("costs(0, 0, -1, 0)", x.costs(0, 0, -1, 0), OUTSIDE);
         due("costs(0, 0, 0, -1)", x.costs(0, 0, 0, -1), OUTSIDE);
         due("costs(0, 0, 0, 9999)", x.costs(0, 0, 0, 9999), STATE);
-        promise = 14;
+        promise(14);
         due("work(0, 101, 1, 11, false)", x.work(0, 101, 1, 11, false), 2);
         due("work(0, 101, 1, 11, true)", x.work(0, 101, 1, 11, true), 0);
         due("work(0, 3, 0, 0, true)", x.work(0, 3, 0, 0, true), 5);
@@ -436,7 +339,7 @@ public final class PromiseTests {
     }
 
     private static void sundays() {
-        promise = 15;
+        promise(15);
         StillInAugust x = house(RICH);
         sunday(x, 200, 20, 16, 25);
         sunday(x, 200, 10, 8, 25);
@@ -459,7 +362,7 @@ public final class PromiseTests {
     }
 
     private static void takes() {
-        promise = 16;
+        promise(16);
         StillInAugust x = house(RICH);
         rule(x, 2, "13L2");
         due("takes(2, 0, 0)", x.takes(2, 0, 0), 2);
@@ -481,7 +384,7 @@ public final class PromiseTests {
     private static void byARule() {
         StillInAugust x = house(SMALL);
         rule(x, 1, "L1");
-        promise = 17;
+        promise(17);
         mean(x, 0, 0, 0, 0, 10, 1);
         mean(x, 1, 0, 0, 0, 17, 5);
         mean(x, 1, 1, 10, 0, 1, 1);
@@ -492,18 +395,18 @@ public final class PromiseTests {
         mean(x, 0, 0, 2, 0, OUTSIDE, OUTSIDE);
         mean(x, 0, 0, 0, 1, OUTSIDE, OUTSIDE);
         mean(x, 0, 0, 0, -1, OUTSIDE, OUTSIDE);
-        promise = 18;
+        promise(18);
         shortly(x, 1, 0, 1, 1);
         shortly(x, 1, 1, 2, 5);
         shortly(x, 1, 2, UNKNOWN, UNKNOWN);
         shortly(x, 3, 0, UNKNOWN, UNKNOWN);
         shortly(x, 0, -1, UNKNOWN, UNKNOWN);
-        promise = 19;
+        promise(19);
         idle(x, 1, 0, 0, 1);
         idle(x, 1, 1, 12, 5);
         idle(x, 1, 2, UNKNOWN, UNKNOWN);
         idle(x, -1, 0, UNKNOWN, UNKNOWN);
-        promise = 20;
+        promise(20);
         there(x, 1, 0, 0, 1, 1);
         there(x, 1, 0, 1, 0, 1);
         there(x, 1, 1, 1, 3, 5);
@@ -516,7 +419,7 @@ public final class PromiseTests {
         there(x, 1, -1, 0, UNKNOWN, UNKNOWN);
         there(x, 1, 0, 5, OUTSIDE, OUTSIDE);
         there(x, 1, 0, -1, OUTSIDE, OUTSIDE);
-        promise = 21;
+        promise(21);
         due("cheapest()", x.cheapest(), 1);
         rule(x, 0, "L1");
         due("cheapest(), of like ones", x.cheapest(), 0);
@@ -527,7 +430,7 @@ public final class PromiseTests {
     }
 
     private static void byARuleWithMeans() {
-        promise = 17;
+        promise(17);
         StillInAugust x = house("N1W009A3");
         mean(x, 0, 0, 0, 2, 7, 1);
         mean(x, 0, 0, 0, 3, OUTSIDE, OUTSIDE);
@@ -541,7 +444,7 @@ public final class PromiseTests {
     }
 
     private static void theBest() {
-        promise = 22;
+        promise(22);
         StillInAugust x = house(SMALL);
         best(x, 0, 0, 0, 17, 5);
         best(x, 1, 10, 0, 1, 1);
@@ -551,7 +454,7 @@ public final class PromiseTests {
         best(x, 0, 2, 0, OUTSIDE, OUTSIDE);
         best(x, 0, 0, 1, OUTSIDE, OUTSIDE);
         best(x, 0, 0, -1, OUTSIDE, OUTSIDE);
-        promise = 23;
+        promise(23);
         due("bestAct(0, 0, 0)", x.bestAct(0, 0, 0), 100);
         due("bestAct(1, 10, 0)", x.bestAct(1, 10, 0), 0);
         due("bestAct(1, 0, 0)", x.bestAct(1, 0, 0), 100);
@@ -579,12 +482,12 @@ public final class PromiseTests {
 
     private static void shapes() {
         StillInAugust x = house("N2H2W008O02");
-        promise = 24;
+        promise(24);
         due("shape(0)", x.shape(0), 2);
         due("shape(1)", x.shape(1), 0);
         due("shape(2)", x.shape(2), UNKNOWN);
         due("shape(-1)", x.shape(-1), UNKNOWN);
-        promise = 25;
+        promise(25);
         due("against(0, 0)", x.against(0, 0), 0);
         due("against(0, 1)", x.against(0, 1), 0);
         due("against(0, 2)", x.against(0, 2), NONE);
@@ -594,9 +497,9 @@ public final class PromiseTests {
         due("against(0, 5)", x.against(0, 5), OUTSIDE);
         due("against(0, -1)", x.against(0, -1), OUTSIDE);
         make(x, "N1H4W008O04D29");
-        promise = 24;
+        promise(24);
         due("shape(0), by no level", x.shape(0), NONE);
-        promise = 25;
+        promise(25);
         due("against(0, 2)", x.against(0, 2), 1);
         due("against(0, 1)", x.against(0, 1), 0);
         make(x, "N1H4W008O04D19");
@@ -604,7 +507,7 @@ public final class PromiseTests {
     }
 
     private static void withouts() {
-        promise = 26;
+        promise(26);
         StillInAugust x = house("N1H1W009D09P0B90");
         without(x, 0, 36, 5);
         without(x, 8, 0, 1);
@@ -632,22 +535,22 @@ public final class PromiseTests {
 
     private static void lives() {
         StillInAugust x = house(RICH);
-        promise = 27;
+        promise(27);
         due("act(-1)", x.act(-1), OUTSIDE);
         due("act(300)", x.act(300), STATE);
         live(x, 0, 0, 0, 0, 0);
-        promise = 28;
+        promise(28);
         due("gone(0), no Monday", x.gone(0), STATE);
         due("gone(500), no Monday", x.gone(500), OUTSIDE);
-        promise = 27;
+        promise(27);
         due("act(202)", x.act(202), 22);
-        promise = 29;
+        promise(29);
         live(x, 0, 200, 0, 1, 22);
         due("live(5)", x.live(5), OUTSIDE);
         due("live(-1)", x.live(-1), OUTSIDE);
-        promise = 27;
+        promise(27);
         due("act(0), it was", x.act(0), STATE);
-        promise = 28;
+        promise(28);
         for (int gone : new int[] {-1, 445, 450, 5, 50, 500, 405, 1000, Integer.MIN_VALUE}) {
             due("gone(" + gone + ")", x.gone(gone), OUTSIDE);
         }
@@ -657,21 +560,21 @@ public final class PromiseTests {
         due("gone(444)", x.gone(444), STATE);
         live(x, 0, 200, 0, 1, 22);
         due("gone(100)", x.gone(100), 1);
-        promise = 29;
+        promise(29);
         live(x, 1, 10, 2, 0, 22);
-        promise = 27;
+        promise(27);
         due("act(1), in the last", x.act(1), STATE);
         due("act(0)", x.act(0), 14);
         live(x, 1, 10, 2, 1, 36);
-        promise = 30;
+        promise(30);
         due("keep(0)", x.keep(0), 1);
-        promise = 28;
+        promise(28);
         due("gone(0)", x.gone(0), 1);
         live(x, 2, 1, 0, 0, 43);
         due("gone(0), over", x.gone(0), STATE);
-        promise = 27;
+        promise(27);
         due("act(0), over", x.act(0), STATE);
-        promise = 28;
+        promise(28);
         x.again(0);
         due("gone(10), though it has no chance", x.gone(10), 0);
         live(x, 2, 0, 0, 0, 36);
@@ -679,7 +582,7 @@ public final class PromiseTests {
 
     private static void keeps() {
         StillInAugust x = house(RICH);
-        promise = 30;
+        promise(30);
         due("keep(2)", x.keep(2), UNKNOWN);
         due("keep(-1)", x.keep(-1), UNKNOWN);
         x.act(101);
@@ -687,7 +590,7 @@ public final class PromiseTests {
         x.gone(0);
         due("keep(0)", x.keep(0), 1);
         x.act(0);
-        promise = 31;
+        promise(31);
         due("again(2)", x.again(2), UNKNOWN);
         due("again(-1)", x.again(-1), UNKNOWN);
         due("again(1)", x.again(1), 0);
@@ -698,11 +601,11 @@ public final class PromiseTests {
         live(x, 1, 10, 1, 0, 26);
         due("again(1), once more", x.again(1), 0);
         live(x, 0, 100, 0, 1, 26);
-        promise = 30;
+        promise(30);
         due("keep(0), other was", x.keep(0), 0);
         due("again(0)", x.again(0), 0);
         due("keep(0), like was", x.keep(0), 0);
-        promise = 31;
+        promise(31);
         x.gone(0);
         x.act(0);
         x.gone(0);
@@ -714,7 +617,7 @@ public final class PromiseTests {
 
     private static void tells() {
         StillInAugust x = house(RICH);
-        promise = 32;
+        promise(32);
         due("tell(-1, 0)", x.tell(-1, 0), OUTSIDE);
         due("tell(10000, 0)", x.tell(10000, 0), OUTSIDE);
         for (int gone : new int[] {-1, 445, 450, 5, 50, 500}) {
@@ -728,7 +631,7 @@ public final class PromiseTests {
         due("tell(0, 0), full", x.tell(0, 0), FULL);
         due("tell(0, 5), full", x.tell(0, 5), OUTSIDE);
         due("count(1)", x.count(1), 5);
-        promise = 33;
+        promise(33);
         due("untell()", x.untell(), 5);
         due("untell()", x.untell(), 0);
         due("count(1)", x.count(1), 0);
@@ -739,13 +642,13 @@ public final class PromiseTests {
         for (int[] week : told) {
             x.tell(week[0], week[1]);
         }
-        promise = 34;
+        promise(34);
         due("judge() " + house, x.judge(), judge);
-        promise = 35;
+        promise(35);
         due("paid() " + house, x.paid(), paid);
-        promise = 36;
+        promise(36);
         luck(x, luck[0], luck[1]);
-        promise = 37;
+        promise(37);
         due("worst() " + house, x.worst(), worst);
         live(x, 0, 0, 0, 0, 0);
         due("count(1)", x.count(1), told.length);
@@ -786,18 +689,18 @@ public final class PromiseTests {
     /** Each of these calls judges by itself: no other was asked before. */
     private static void judgedUnasked() {
         StillInAugust x = house(RICH);
-        promise = 35;
+        promise(35);
         x.tell(202, 100);
         due("paid(), unasked", x.paid(), 22);
         x.tell(0, 0);
-        promise = 36;
+        promise(36);
         due("luck(true), unasked", x.luck(true), 8);
         x.untell();
         x.tell(200, 0);
         due("luck(false), unasked", x.luck(false), 25);
         due("luck(true), unasked", x.luck(true), 16);
         x.untell();
-        promise = 37;
+        promise(37);
         due("worst(), unasked", x.worst(), NONE);
         x.tell(0, 0);
         due("worst(), unasked", x.worst(), 0);
@@ -805,12 +708,12 @@ public final class PromiseTests {
         x.tell(300, 0);
         due("worst(), unasked", x.worst(), STATE);
         x.untell();
-        promise = 35;
+        promise(35);
         due("paid(), unasked", x.paid(), 0);
     }
 
     private static void rowBesideLive() {
-        promise = 34;
+        promise(34);
         StillInAugust x = house(RICH);
         x.act(100);
         x.tell(200, 0);
@@ -821,7 +724,7 @@ public final class PromiseTests {
     }
 
     private static void counts() {
-        promise = 38;
+        promise(38);
         StillInAugust x = house(RICH);
         x.tell(0, 0);
         due("count(0)", x.count(0), 49);
@@ -862,9 +765,6 @@ public final class PromiseTests {
         judgedUnasked();
         rowBesideLive();
         counts();
-        System.out.println(wrong == 0 ? "all answers are as due" : wrong + " answers are not as due");
-        if (wrong != 0) {
-            System.exit(1);
-        }
+        end();
     }
 }
