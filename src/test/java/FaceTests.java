@@ -1,3 +1,4 @@
+import java.lang.reflect.Array;
 import java.lang.reflect.Constructor;
 import java.lang.reflect.Field;
 import java.lang.reflect.Method;
@@ -6,13 +7,15 @@ import java.nio.file.Files;
 import java.nio.file.Path;
 import java.util.ArrayList;
 import java.util.Arrays;
+import java.util.Collections;
+import java.util.IdentityHashMap;
 import java.util.List;
 import java.util.Set;
 import java.util.TreeSet;
 import java.util.regex.Matcher;
 import java.util.regex.Pattern;
 
-/** The public face is the document's, and the source keeps to what LANGUAGE.md leaves. */
+/** The public face is the document's, the source keeps to what LANGUAGE.md leaves, and a run to its room. */
 public final class FaceTests {
     private static final String[] FACE = {
         "int write(int, long)", "int wipe()", "int fault(boolean)", "int make()", "int rule(int)",
@@ -126,9 +129,44 @@ public final class FaceTests {
         }
     }
 
+    /** All objects and arrays that one holds, itself too. */
+    private static void gather(Object one, Set<Object> found) throws Exception {
+        if (one == null || !found.add(one) || one.getClass().isArray()) {
+            return;
+        }
+        for (Field f : one.getClass().getDeclaredFields()) {
+            if (!Modifier.isStatic(f.getModifiers()) && !f.getType().isPrimitive()) {
+                f.setAccessible(true);
+                gather(f.get(one), found);
+            }
+        }
+    }
+
+    private static int fieldsOf(Object one) {
+        int fields = 0;
+        for (Field f : one.getClass().getDeclaredFields()) {
+            fields += Modifier.isStatic(f.getModifiers()) ? 0 : 1;
+        }
+        return fields;
+    }
+
+    /** No call makes anything, so the most that a run can make is an object anew in each of its 512 calls. */
+    private static void room() throws Exception {
+        Set<Object> found = Collections.newSetFromMap(new IdentityHashMap<>());
+        gather(new StillInAugust(), found);
+        long elements = 0;
+        for (Object one : found) {
+            elements += one.getClass().isArray() ? Array.getLength(one) : fieldsOf(one);
+            check(one.getClass().isArray() || fieldsOf(one) <= 20, one.getClass() + " has more than 20 fields");
+        }
+        check(512L * found.size() <= 600_000, "512 objects made are too many: " + found.size() + " each");
+        check(512 * elements <= 7_300_000, "512 objects made take too much room: " + elements + " each");
+    }
+
     public static void main(String[] args) throws Exception {
         face();
         source();
+        room();
         System.out.println(wrong == 0 ? "the face and the source are as due" : wrong + " faults");
         if (wrong != 0) {
             System.exit(1);
